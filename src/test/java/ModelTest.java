@@ -1,5 +1,3 @@
-import java.util.Random;
-
 /** Long runs of calls, always the same ones, in which every answer and digest must be the model's. */
 final class ModelTest {
     private static final int RUNS = 1500;
@@ -10,17 +8,32 @@ final class ModelTest {
     private static final int[] ODD = {-1, -2, 40, 41, 150, 500, 501, 999, 1000, 2000, 2001,
         Integer.MIN_VALUE, Integer.MAX_VALUE};
 
-    private final Random random;
+    private final Picks picks;
     private final FreezeCredits x = new FreezeCredits();
     private final Model model = new Model();
     private String call;
+    private boolean failed = false;
 
     private interface Answer {
         long get();
     }
 
+    /** Numbers that look picked at will, but are the same ones each time. */
+    private static final class Picks {
+        private long state;
+
+        Picks(long seed) {
+            state = seed * 0x9E3779B97F4A7C15L + 1;
+        }
+
+        int nextInt(int bound) {
+            state = state * 6364136223846793005L + 1442695040888963407L;
+            return (int) ((state >>> 33) % bound);
+        }
+    }
+
     private ModelTest(long seed) {
-        random = new Random(seed);
+        picks = new Picks(seed);
     }
 
     public static void main(String[] args) {
@@ -31,10 +44,10 @@ final class ModelTest {
     }
 
     private void run(String name) {
-        int weekWeight = 1 + random.nextInt(8);
+        int weekWeight = 1 + picks.nextInt(8);
         for (int i = 0; i < CALLS; i++) {
             step(weekWeight);
-            if (random.nextInt(8) == 0) {
+            if (picks.nextInt(8) == 0) {
                 call = "digest";
                 same(x::digest, model::digest);
             }
@@ -46,8 +59,6 @@ final class ModelTest {
         call = "digest";
         same(x::digest, model::digest);
     }
-
-    private boolean failed = false;
 
     private void same(Answer got, Answer due) {
         long answer;
@@ -64,12 +75,12 @@ final class ModelTest {
     }
 
     private int odd() {
-        return ODD[random.nextInt(ODD.length)];
+        return ODD[picks.nextInt(ODD.length)];
     }
 
     /** A number from low to high, or sometimes one beside them or far away. */
     private int between(int low, int high) {
-        int kind = random.nextInt(60);
+        int kind = picks.nextInt(60);
         if (kind == 0) {
             return odd();
         }
@@ -79,7 +90,7 @@ final class ModelTest {
         if (kind == 2) {
             return high + 1;
         }
-        return low + random.nextInt(Math.max(1, high - low + 1));
+        return low + picks.nextInt(Math.max(1, high - low + 1));
     }
 
     private int aTeam() {
@@ -87,8 +98,8 @@ final class ModelTest {
     }
 
     private int aChange() {
-        if (random.nextInt(3) > 0) {
-            int index = random.nextInt(6);
+        if (picks.nextInt(3) > 0) {
+            int index = picks.nextInt(6);
             long waiting = model.waiting(index);
             if (waiting >= 0) {
                 return (int) waiting;
@@ -103,11 +114,11 @@ final class ModelTest {
 
     private int aWeek() {
         int week = (int) model.whole(8);
-        return random.nextInt(4) > 0 ? Math.min(39, week + random.nextInt(4)) : between(0, 39);
+        return picks.nextInt(4) > 0 ? Math.min(39, week + picks.nextInt(4)) : between(0, 39);
     }
 
     private int credits() {
-        return random.nextInt(3) > 0 ? random.nextInt(60) : between(0, 999);
+        return picks.nextInt(3) > 0 ? picks.nextInt(60) : between(0, 999);
     }
 
     private int aRisk() {
@@ -115,20 +126,20 @@ final class ModelTest {
     }
 
     private void step(int weekWeight) {
-        int kind = random.nextInt(100);
+        int kind = picks.nextInt(100);
         if (kind < 3 || (model.whole(0) < 2 && kind < 40)) {
             int c = credits();
             call = "addTeam(" + c + ")";
             same(() -> x.addTeam(c), () -> model.addTeam(c));
         } else if (kind < 6) {
             int a = aWeek();
-            int b = random.nextInt(5) > 0 ? Math.min(39, a + random.nextInt(5)) : aWeek();
-            boolean on = random.nextInt(5) > 1;
+            int b = picks.nextInt(5) > 0 ? Math.min(39, a + picks.nextInt(5)) : aWeek();
+            boolean on = picks.nextInt(5) > 1;
             call = "freeze(" + a + ", " + b + ", " + on + ")";
             same(() -> x.freeze(a, b, on), () -> model.freeze(a, b, on));
         } else if (kind < 9) {
             int what = between(0, 3);
-            int value = random.nextInt(3) > 0 ? between(1, 10) : between(0, what == 3 ? 200 : 50);
+            int value = picks.nextInt(3) > 0 ? between(1, 10) : between(0, what == 3 ? 200 : 50);
             call = "set(" + what + ", " + value + ")";
             same(() -> x.set(what, value), () -> model.set(what, value));
         } else if (kind < 9 + weekWeight) {
@@ -155,13 +166,13 @@ final class ModelTest {
 
     private void stepOfAChange() {
         int c = aChange();
-        switch (random.nextInt(6)) {
+        switch (picks.nextInt(6)) {
             case 0, 1, 2:
                 call = "exempt(" + c + ")";
                 same(() -> x.exempt(c), () -> model.exempt(c));
                 break;
             case 3, 4:
-                boolean fault = random.nextInt(2) == 0;
+                boolean fault = picks.nextInt(2) == 0;
                 call = "make(" + c + ", " + fault + ")";
                 same(() -> x.make(c, fault), () -> model.make(c, fault));
                 break;
@@ -175,10 +186,10 @@ final class ModelTest {
     private void stepOfALoan() {
         int from = aTeam();
         int to = aTeam();
-        int amount = random.nextInt(4) > 0 ? 1 + random.nextInt(25) : between(1, 500);
+        int amount = picks.nextInt(4) > 0 ? 1 + picks.nextInt(25) : between(1, 500);
         int due = aWeek();
         int loan = aLoan();
-        if (random.nextInt(3) > 0) {
+        if (picks.nextInt(3) > 0) {
             call = "lend(" + from + ", " + to + ", " + amount + ", " + due + ")";
             same(() -> x.lend(from, to, amount, due), () -> model.lend(from, to, amount, due));
         } else {
@@ -194,7 +205,7 @@ final class ModelTest {
         int r = aRisk();
         int w = between(0, 39);
         int what = between(0, 10);
-        switch (random.nextInt(12)) {
+        switch (picks.nextInt(12)) {
             case 0: call = "team(" + t + ", " + what + ")"; same(() -> x.team(t, what), () -> model.team(t, what)); break;
             case 1: call = "change(" + c + ", " + what + ")"; same(() -> x.change(c, what), () -> model.change(c, what)); break;
             case 2: call = "loan(" + l + ", " + what + ")"; same(() -> x.loan(l, what), () -> model.loan(l, what)); break;
@@ -211,15 +222,15 @@ final class ModelTest {
     }
 
     private void commands() {
-        if (random.nextInt(5) > 0) {
+        if (picks.nextInt(5) > 0) {
             call = "clearCommands()";
             same(x::clearCommands, model::clearCommands);
         }
         StringBuilder text = new StringBuilder();
-        for (int commands = random.nextInt(6); commands > 0; commands--) {
+        for (int commands = picks.nextInt(6); commands > 0; commands--) {
             appendCommand(text);
         }
-        if (random.nextInt(3) == 0) {
+        if (picks.nextInt(3) == 0) {
             spoil(text);
         }
         for (int i = 0; i < text.length(); i++) {
@@ -227,8 +238,8 @@ final class ModelTest {
             call = "type(" + value + ")";
             same(() -> x.type(value), () -> model.type(value));
         }
-        if (random.nextInt(20) == 0) {
-            int value = random.nextBoolean() ? 128 : odd();
+        if (picks.nextInt(20) == 0) {
+            int value = picks.nextInt(2) == 0 ? 128 : odd();
             call = "type(" + value + ")";
             same(() -> x.type(value), () -> model.type(value));
         }
@@ -237,14 +248,14 @@ final class ModelTest {
     }
 
     private void appendCommand(StringBuilder text) {
-        int verb = random.nextInt(WORDS.length);
+        int verb = picks.nextInt(WORDS.length);
         spaces(text, 0);
         text.append(WORDS[verb]);
         int[] numbers = numbersFor(WORDS[verb]);
         for (int i = 0; i < NUMBERS[verb]; i++) {
             spaces(text, 1);
             int number = Math.abs(numbers[i] % 1000);
-            if (number < 100 && random.nextInt(6) == 0) {
+            if (number < 100 && picks.nextInt(6) == 0) {
                 text.append('0');
             }
             text.append(number);
@@ -258,15 +269,15 @@ final class ModelTest {
             case "team": return new int[] {credits()};
             case "freeze", "thaw": return new int[] {aWeek(), aWeek()};
             case "ask": return new int[] {aTeam(), aRisk()};
-            case "lend": return new int[] {aTeam(), aTeam(), 1 + random.nextInt(20), aWeek()};
-            case "repay": return new int[] {aLoan(), 1 + random.nextInt(20)};
+            case "lend": return new int[] {aTeam(), aTeam(), 1 + picks.nextInt(20), aWeek()};
+            case "repay": return new int[] {aLoan(), 1 + picks.nextInt(20)};
             case "set": return new int[] {between(0, 3), between(0, 20)};
             default: return new int[] {aChange()};
         }
     }
 
     private void spaces(StringBuilder text, int least) {
-        int count = least + (random.nextInt(6) == 0 ? 1 + random.nextInt(2) : 0);
+        int count = least + (picks.nextInt(6) == 0 ? 1 + picks.nextInt(2) : 0);
         for (int i = 0; i < count; i++) {
             text.append(' ');
         }
@@ -274,9 +285,9 @@ final class ModelTest {
 
     private void spoil(StringBuilder text) {
         String signs = " ;09azw`{/:A-\t\u0000\u007f";
-        int at = random.nextInt(text.length() + 1);
-        switch (random.nextInt(4)) {
-            case 0: text.insert(at, signs.charAt(random.nextInt(signs.length()))); break;
+        int at = picks.nextInt(text.length() + 1);
+        switch (picks.nextInt(4)) {
+            case 0: text.insert(at, signs.charAt(picks.nextInt(signs.length()))); break;
             case 1: text.setLength(at); break;
             case 2:
                 if (at < text.length()) {
@@ -285,7 +296,7 @@ final class ModelTest {
                 break;
             default:
                 if (at < text.length()) {
-                    text.setCharAt(at, signs.charAt(random.nextInt(signs.length())));
+                    text.setCharAt(at, signs.charAt(picks.nextInt(signs.length())));
                 }
                 break;
         }
