@@ -14,6 +14,7 @@ final class CommandsTest {
         everyRefusal();
         oneStateForARun();
         theTextStays();
+        nothingOfOlderTexts();
         fullText();
         Check.end();
     }
@@ -97,6 +98,7 @@ final class CommandsTest {
         fault("week; tea", 6);
         fault("week;  x", 7);
         fault("weeks;", 0);
+        fault("xeek;", 0);
         fault("teAm 5;", 0);
         fault("Team 5;", 0);
         fault("te1;", 0);
@@ -243,6 +245,16 @@ final class CommandsTest {
         x.undo();
         Check.same("undo leaves the text", 12, x.whole(17));
         Check.same("run again", 2, x.runCommands());
+    }
+
+    private static void nothingOfOlderTexts() {
+        FreezeCredits x = new FreezeCredits();
+        Check.same("run", 1, run(x, "team 5;"));
+        Check.same("a semicolon of the older text does not stand", -10 - 6, run(x, "team 5"));
+        Check.same("a fault before the older place", -10, run(x, "wek;"));
+        run(x, "teamx");
+        Check.same("a letter of the older text does not stand", -10 - 4, run(x, "team"));
+        Check.same("teams", 1, x.whole(0));
     }
 
     private static void fullText() {

@@ -4,6 +4,7 @@ final class LoansTest {
         lend();
         lendRefused();
         lendToOneThatOwes();
+        twoTeamsThatOwe();
         lendAtMostTwelve();
         repay();
         repayRefused();
@@ -70,6 +71,7 @@ final class LoansTest {
         Check.same("left of loan 0", 8, x.loan(0, 3));
         Check.same("left of loan 1", 1, x.loan(1, 3));
         Check.same("it owes", 1, x.team(2, 9));
+        Check.same("teams that owe", 1, x.whole(16));
         Check.refused("lend to one that owes", Check.STATE, x, () -> x.lend(0, 2, 1, 5));
         x.giveUp(0);
         Check.same("one that owes may lend", 2, x.lend(2, 0, 1, 5));
@@ -78,7 +80,27 @@ final class LoansTest {
         Check.same("it owes still", 1, x.team(2, 9));
         x.repay(1, 1);
         Check.same("it owes no more", 0, x.team(2, 9));
+        Check.same("teams that owe", 0, x.whole(16));
         Check.same("lend to it again", 2, x.lend(0, 2, 1, 5));
+    }
+
+    private static void twoTeamsThatOwe() {
+        FreezeCredits x = new FreezeCredits();
+        x.set(1, 0);
+        x.addTeam(0);
+        x.addTeam(50);
+        x.addTeam(0);
+        x.lend(1, 0, 9, 0);
+        x.lend(1, 2, 9, 0);
+        x.ask(0, 3);
+        x.ask(2, 3);
+        x.exempt(0);
+        x.exempt(1);
+        x.endWeek();
+        Check.same("team 0 owes", 1, x.team(0, 9));
+        Check.same("team 1 does not", 0, x.team(1, 9));
+        Check.same("team 2 owes", 1, x.team(2, 9));
+        Check.same("teams that owe", 2, x.whole(16));
     }
 
     private static void lendAtMostTwelve() {

@@ -233,6 +233,11 @@ final class WhatIfTest {
         x.addTeam(0);
         x.addTeam(999);
         Check.same("180 credits", 1, x.lender(0, 9));
+        x.addTeam(180);
+        x.addTeam(0);
+        x.lend(1, 0, 300, 39);
+        x.lend(1, 0, 500, 39);
+        Check.same("team 0 with the most, 1 and 2 with enough", 0, x.lender(3, 9));
     }
 
     private static void lenderRefused() {
