@@ -681,7 +681,10 @@ public final class FreezeCredits {
         void copyFrom(Calendar other) {
             week = other.week;
             System.arraycopy(other.settings, 0, settings, 0, SETTINGS);
-            System.arraycopy(other.frozenWeeks, 0, frozenWeeks, 0, WEEKS);
+            // LANGUAGE.md may mean its array copies for arrays of numbers alone.
+            for (int copied = 0; copied < WEEKS; copied++) {
+                frozenWeeks[copied] = other.frozenWeeks[copied];
+            }
             teams.copyFrom(other.teams);
             changes.copyFrom(other.changes);
             loans.copyFrom(other.loans);
